@@ -1,10 +1,27 @@
+import java.util.function.Consumer;
+import java.util.function.Supplier;
+
 /** Counts what is as due and tells what is not; every test ends with done(). */
 final class Check {
     private int passed;
     private int failed;
+    private String words = "";
 
     interface Call {
         void make();
+    }
+
+    /** A sentence of the document, with a test of its own: its words are told with all that is not as due. */
+    void sentence(String ofTheDocument, Call test) {
+        words = "[" + ofTheDocument + "] ";
+        int before = passed + failed;
+        try {
+            test.make();
+        } catch (RuntimeException e) {
+            tell(false, "threw " + e);
+        }
+        tell(passed + failed > before, "looks at nothing");
+        words = "";
     }
 
     void same(String what, long got, long due) {
@@ -26,13 +43,7 @@ final class Check {
     /** The call throws just this exception, and the object answers as it did before. */
     void fails(String what, Nettle nettle, Class<? extends RuntimeException> due, Call call) {
         String before = Look.at(nettle);
-        Class<?> got = null;
-        try {
-            call.make();
-        } catch (RuntimeException e) {
-            got = e.getClass();
-        }
-        tell(got == due, what + ": threw " + got + ", due is " + due);
+        isThrown(what, due, call);
         same(what + " changes nothing", Look.at(nettle), before);
     }
 
@@ -44,12 +55,41 @@ final class Check {
         fails(what, nettle, IllegalArgumentException.class, call);
     }
 
+    /**
+     * The call throws just this exception, and all that can be learnt behind it is
+     * the same as of a twin that was not asked; both are made anew, so that no
+     * object comes near its 512th call.
+     */
+    void refuses(String what, Class<? extends RuntimeException> due, Supplier<Nettle> made, Consumer<Nettle> call) {
+        Nettle nettle = made.get();
+        isThrown(what, due, () -> call.accept(nettle));
+        same(what + " changes nothing", Look.through(nettle), Look.through(made.get()));
+    }
+
+    void noSuch(String what, Supplier<Nettle> made, Consumer<Nettle> call) {
+        refuses(what, IndexOutOfBoundsException.class, made, call);
+    }
+
+    void wrong(String what, Supplier<Nettle> made, Consumer<Nettle> call) {
+        refuses(what, IllegalArgumentException.class, made, call);
+    }
+
+    private void isThrown(String what, Class<? extends RuntimeException> due, Call call) {
+        Class<?> got = null;
+        try {
+            call.make();
+        } catch (RuntimeException e) {
+            got = e.getClass();
+        }
+        tell(got == due, what + ": threw " + got + ", due is " + due);
+    }
+
     private void tell(boolean isDue, String what) {
         if (isDue) {
             passed++;
         } else {
             failed++;
-            System.out.println(what);
+            System.out.println(words + what);
         }
     }
 
