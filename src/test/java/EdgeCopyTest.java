@@ -3,19 +3,20 @@ public final class EdgeCopyTest {
     private static final Check CHECK = new Check();
 
     public static void main(String[] args) {
-        CHECK.sentence("The COPY is what RULES were, as it was made", EdgeCopyTest::staysAsItWas);
-        CHECK.sentence("(without how often they were HIT)", EdgeCopyTest::withoutHits);
-        CHECK.sentence("and the LAST WORD", EdgeCopyTest::withLastWord);
-        CHECK.sentence("ahead of the first one there are no RULES", EdgeCopyTest::noRulesAtFirst);
-        CHECK.sentence("and the LAST WORD is DENY", EdgeCopyTest::denyAtFirst);
-        CHECK.sentence("27 Makes the COPY of what is now", EdgeCopyTest::copies);
-        CHECK.sentence("27 Returns how many RULES it has", EdgeCopyTest::copyReturns);
-        CHECK.sentence("28 Returns the AMOUNT that has another VERDICT now", EdgeCopyTest::changed);
-        CHECK.sentence("28 VERDICT, not RULE", EdgeCopyTest::changedByVerdicts);
-        CHECK.sentence("29 Returns that of the first PACKET", EdgeCopyTest::witness);
-        CHECK.sentence("29 (by FROM, then by TO, PORT, KIND)", EdgeCopyTest::witnessInOrder);
-        CHECK.sentence("29 -1 if there is none", EdgeCopyTest::noWitness);
-        CHECK.sentence("29 Throws if field is not 0 to 3", EdgeCopyTest::witnessThrows);
+        CHECK.sentence("Terms, COPY: The COPY is what RULES were, as it was made", EdgeCopyTest::staysAsItWas);
+        CHECK.sentence("Terms, COPY: (without how often they were HIT)", EdgeCopyTest::withoutHits);
+        CHECK.sentence("Terms, COPY: and the LAST WORD", EdgeCopyTest::withLastWord);
+        CHECK.sentence("Terms, COPY: ahead of the first one there are no RULES", EdgeCopyTest::noRulesAtFirst);
+        CHECK.sentence("Terms, COPY: and the LAST WORD is DENY", EdgeCopyTest::denyAtFirst);
+        CHECK.sentence("Promise 27: Makes the COPY of what is now", EdgeCopyTest::copies);
+        CHECK.sentence("Promise 27: Returns how many RULES it has", EdgeCopyTest::copyReturns);
+        CHECK.sentence("Promise 28: Returns the AMOUNT that has another VERDICT now", EdgeCopyTest::changed);
+        CHECK.sentence("Promise 28: VERDICT, not RULE", EdgeCopyTest::changedByVerdicts);
+        CHECK.sentence("Promise 28: now than with the COPY, of eight RULES each", EdgeCopyTest::changedOfEightEach);
+        CHECK.sentence("Promise 29: Returns that of the first PACKET", EdgeCopyTest::witness);
+        CHECK.sentence("Promise 29: (by FROM, then by TO, PORT, KIND)", EdgeCopyTest::witnessInOrder);
+        CHECK.sentence("Promise 29: -1 if there is none", EdgeCopyTest::noWitness);
+        CHECK.sentence("Promise 29: Throws if field is not 0 to 3", EdgeCopyTest::witnessThrows);
         CHECK.done("EdgeCopyTest");
     }
 
@@ -105,6 +106,7 @@ public final class EdgeCopyTest {
     private static void copies() {
         Nettle n = copied();
         n.turn(0, Walls.DENY);
+        CHECK.same("asked before", n.changed(), 10 * Walls.OF_FROM);
         n.copy();
         CHECK.same("the second one takes the place of the first one", n.changed(), 0);
         n.turn(0, Walls.ALLOW);
@@ -163,6 +165,38 @@ public final class EdgeCopyTest {
         CHECK.same("a rule that says what the next one said", n.changed(), 0);
     }
 
+    /** Eight RULES that ALLOW four FROMS each, beginning with this one. */
+    private static void addEight(Nettle n, int first) {
+        for (int rule = 0; rule < 8; rule++) {
+            Walls.add(n, Walls.ALLOW, Walls.FROM, first + 20 * rule, first + 20 * rule + 3);
+        }
+    }
+
+    private static Nettle eightEach(int now, int old) {
+        Nettle n = new Nettle();
+        addEight(n, old);
+        n.copy();
+        for (int rule = 0; rule < 8; rule++) {
+            n.drop(0);
+        }
+        addEight(n, now);
+        return n;
+    }
+
+    /** No RANGE begins or ends where another one does: there are no more cuts than these. */
+    private static void changedOfEightEach() {
+        Nettle n = eightEach(1, 11);
+        CHECK.same("all of them are others", n.changed(), 64 * Walls.OF_FROM);
+        CHECK.same("the first one of those now", Look.witness(n), "1 0 0 0");
+        CHECK.same("the last piece is not lost", n.piece(0, 16, 1) - n.piece(0, 16, 0), 110);
+        n = eightEach(11, 1);
+        CHECK.same("all of them are others, the other way round", n.changed(), 64 * Walls.OF_FROM);
+        CHECK.same("the first one of the copy", Look.witness(n), "1 0 0 0");
+        CHECK.same("the last piece is not lost", n.piece(0, 16, 1) - n.piece(0, 16, 0), 100);
+        n.setLast(true);
+        CHECK.same("and with another last word", n.changed(), (256 - 32) * Walls.OF_FROM);
+    }
+
     private static void witness() {
         Nettle n = new Nettle();
         n.copy();
@@ -210,6 +244,13 @@ public final class EdgeCopyTest {
         n.setLast(true);
         n.rule(Walls.DENY);
         CHECK.same("other rules, the same verdicts", Look.witness(n), "-1 -1 -1 -1");
+        Nettle wider = new Nettle();
+        wider.setLast(true);
+        Walls.add(wider, Walls.DENY, Walls.FROM, 0, 9, Walls.TO, 0, 99);
+        Walls.add(wider, Walls.DENY, Walls.TO, 100, 255);
+        CHECK.same("there is one", Look.witness(wider), "10 0 0 0");
+        wider.narrow(0, Walls.FROM, 0, 255);
+        CHECK.same("none any more", Look.witness(wider), "-1 -1 -1 -1");
     }
 
     private static void witnessThrows() {

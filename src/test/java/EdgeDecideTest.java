@@ -6,29 +6,34 @@ public final class EdgeDecideTest {
     private static final int[] COUNTS = {0, 1, 5, 8};
 
     public static void main(String[] args) {
-        CHECK.sentence("11 Returns the AMOUNT that it DECIDES", EdgeDecideTest::decides);
-        CHECK.sentence("11 of a NOTE that it MEETS, and that is not DECIDED ahead of it", EdgeDecideTest::decidesOfNote);
-        CHECK.sentence("11 Throws if there is no such RULE", () -> noSuchRule(Nettle::decides));
-        CHECK.sentence("12 Returns the AMOUNT that is ALLOWED", EdgeDecideTest::allowed);
-        CHECK.sentence("12 by RULES and the LAST WORD alone", EdgeDecideTest::allowedByRulesAlone);
-        CHECK.sentence("13 Returns 0 if it is neither DEAD nor NEEDLESS", EdgeDecideTest::stateAlive);
-        CHECK.sentence("13 DEAD: 1 if it is COVERED by a RULE with the same VERDICT", EdgeDecideTest::stateSame);
-        CHECK.sentence("13 (by the first one that it is COVERED by)", EdgeDecideTest::stateByFirst);
-        CHECK.sentence("13 2 by one with another VERDICT", EdgeDecideTest::stateOther);
-        CHECK.sentence("13 3 if it is COVERED by none", EdgeDecideTest::stateNone);
-        CHECK.sentence("13 4 if it is NEEDLESS", EdgeDecideTest::stateNeedless);
-        CHECK.sentence("13 Throws if there is no such RULE", () -> noSuchRule(Nettle::state));
-        CHECK.sentence("14 Returns the first RULE that it is COVERED by", EdgeDecideTest::coveredByFirst);
-        CHECK.sentence("14 -1 if there is none", EdgeDecideTest::coveredByNone);
-        CHECK.sentence("14 Throws if there is no such RULE", () -> noSuchRule(Nettle::coveredBy));
-        CHECK.sentence("15 Returns the AMOUNT that both MEET", EdgeDecideTest::shared);
-        CHECK.sentence("15 a: a RULE, b: a RULE", EdgeDecideTest::sharedOfAnyTwo);
-        CHECK.sentence("15 Throws if there is no such RULE a", () -> noSuchRule((n, rule) -> n.shared(rule, 0)));
-        CHECK.sentence("15 Throws if there is no such RULE b", () -> noSuchRule((n, rule) -> n.shared(0, rule)));
-        CHECK.sentence("16 Returns how many pairs of RULES stand AGAINST each other", EdgeDecideTest::quarrels);
-        CHECK.sentence("17 Returns the RULE that DECIDES this PACKET", EdgeDecideTest::decider);
-        CHECK.sentence("17 -1 for the LAST WORD", EdgeDecideTest::deciderIsLastWord);
-        CHECK.sentence("17 Throws if one is no VALUE of its FIELD", EdgeDecideTest::deciderThrows);
+        CHECK.sentence("Promise 11: Returns the AMOUNT that it DECIDES", EdgeDecideTest::decides);
+        CHECK.sentence("Promise 11: of a NOTE that it MEETS, and that is not DECIDED ahead of it",
+                EdgeDecideTest::decidesOfNote);
+        CHECK.sentence("Promise 11: Throws if there is no such RULE", () -> noSuchRule(Nettle::decides));
+        CHECK.sentence("Promise 12: Returns the AMOUNT that is ALLOWED", EdgeDecideTest::allowed);
+        CHECK.sentence("Promise 12: by RULES and the LAST WORD alone", EdgeDecideTest::allowedByRulesAlone);
+        CHECK.sentence("Promise 13: Returns 0 if it is neither DEAD nor NEEDLESS", EdgeDecideTest::stateAlive);
+        CHECK.sentence("Promise 13: DEAD: 1 if it is COVERED by a RULE with the same VERDICT",
+                EdgeDecideTest::stateSame);
+        CHECK.sentence("Promise 13: (by the first one that it is COVERED by)", EdgeDecideTest::stateByFirst);
+        CHECK.sentence("Promise 13: 2 by one with another VERDICT", EdgeDecideTest::stateOther);
+        CHECK.sentence("Promise 13: 3 if it is COVERED by none", EdgeDecideTest::stateNone);
+        CHECK.sentence("Promise 13: 4 if it is NEEDLESS", EdgeDecideTest::stateNeedless);
+        CHECK.sentence("Promise 13: Throws if there is no such RULE", () -> noSuchRule(Nettle::state));
+        CHECK.sentence("Promise 14: Returns the first RULE that it is COVERED by", EdgeDecideTest::coveredByFirst);
+        CHECK.sentence("Promise 14: -1 if there is none", EdgeDecideTest::coveredByNone);
+        CHECK.sentence("Promise 14: Throws if there is no such RULE", () -> noSuchRule(Nettle::coveredBy));
+        CHECK.sentence("Promise 15: Returns the AMOUNT that both MEET", EdgeDecideTest::shared);
+        CHECK.sentence("Promise 15: a: a RULE, b: a RULE", EdgeDecideTest::sharedOfAnyTwo);
+        CHECK.sentence("Promise 15: Throws if there is no such RULE a",
+                () -> noSuchRule((n, rule) -> n.shared(rule, 0)));
+        CHECK.sentence("Promise 15: Throws if there is no such RULE b",
+                () -> noSuchRule((n, rule) -> n.shared(0, rule)));
+        CHECK.sentence("Promise 16: Returns how many pairs of RULES stand AGAINST each other",
+                EdgeDecideTest::quarrels);
+        CHECK.sentence("Promise 17: Returns the RULE that DECIDES this PACKET", EdgeDecideTest::decider);
+        CHECK.sentence("Promise 17: -1 for the LAST WORD", EdgeDecideTest::deciderIsLastWord);
+        CHECK.sentence("Promise 17: Throws if one is no VALUE of its FIELD", EdgeDecideTest::deciderThrows);
         CHECK.done("EdgeDecideTest");
     }
 
@@ -89,6 +94,9 @@ public final class EdgeDecideTest {
     private static void allowed() {
         Nettle n = new Nettle();
         CHECK.same("none", n.allowed(), 0);
+        n.setLast(true);
+        CHECK.same("all without a rule", n.allowed(), Walls.ALL);
+        n.setLast(false);
         Walls.addTheLast(n, Walls.ALLOW);
         CHECK.same("one by a rule", n.allowed(), 1);
         n.setLast(true);
@@ -190,6 +198,9 @@ public final class EdgeDecideTest {
         n.turn(1, Walls.ALLOW);
         CHECK.same("above a rule with ALLOW", n.state(0), 4);
         CHECK.same("that one, too", n.state(1), 4);
+        n.setLast(false);
+        CHECK.same("by the rule behind alone", n.state(0), 4);
+        CHECK.same("not that one", n.state(1), 0);
         n.turn(0, Walls.NOTE);
         CHECK.same("a note never", n.state(0), 0);
     }

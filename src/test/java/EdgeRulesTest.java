@@ -4,43 +4,44 @@ public final class EdgeRulesTest {
     private static final int[] COUNTS = {0, 1, 5, 8};
 
     public static void main(String[] args) {
-        CHECK.sentence("1 Creates a compiler without RULES", EdgeRulesTest::withoutRules);
-        CHECK.sentence("2 Adds a RULE behind the others", EdgeRulesTest::addsBehind);
-        CHECK.sentence("2 with WHOLE RANGES", EdgeRulesTest::addsWholeRanges);
-        CHECK.sentence("2 Returns its number", EdgeRulesTest::ruleReturnsNumber);
-        CHECK.sentence("2 Throws if verdict is not 0 to 2", EdgeRulesTest::ruleThrowsVerdict);
-        CHECK.sentence("2 Throws if there are 8", EdgeRulesTest::ruleThrowsFull);
-        CHECK.sentence("3 Sets a RANGE", EdgeRulesTest::setsRange);
-        CHECK.sentence("3 Returns how many VALUES the RANGE had before", EdgeRulesTest::narrowReturns);
-        CHECK.sentence("3 Throws if there is no such RULE", EdgeRulesTest::narrowThrowsRule);
-        CHECK.sentence("3 or FIELD", EdgeRulesTest::narrowThrowsField);
-        CHECK.sentence("3 Throws if low or high is no VALUE of it", EdgeRulesTest::narrowThrowsValue);
-        CHECK.sentence("3 or high is less than low", EdgeRulesTest::narrowThrowsOrder);
-        CHECK.sentence("4 its VERDICT from now on", EdgeRulesTest::turns);
-        CHECK.sentence("4 Returns the one before", EdgeRulesTest::turnReturns);
-        CHECK.sentence("4 Throws if there is no such RULE", EdgeRulesTest::turnThrowsRule);
-        CHECK.sentence("4 Throws if verdict is not 0 to 2", EdgeRulesTest::turnThrowsVerdict);
-        CHECK.sentence("5 taken out, and put in so that it has another number then", EdgeRulesTest::moves);
-        CHECK.sentence("5 (How often it was HIT goes with it.)", EdgeRulesTest::moveTakesHits);
-        CHECK.sentence("5 Returns how many RULES have another number than before", EdgeRulesTest::moveReturns);
-        CHECK.sentence("5 Throws if there is no such RULE", EdgeRulesTest::moveThrowsRule);
-        CHECK.sentence("5 or number", EdgeRulesTest::moveThrowsNumber);
-        CHECK.sentence("6 Takes a RULE away", EdgeRulesTest::drops);
-        CHECK.sentence("6 Returns how many there are then", EdgeRulesTest::dropReturns);
-        CHECK.sentence("6 Throws if there is no such RULE", EdgeRulesTest::dropThrows);
-        CHECK.sentence("7 whether the LAST WORD is ALLOW from now on", EdgeRulesTest::setsLast);
-        CHECK.sentence("7 Returns whether it was", EdgeRulesTest::setLastReturns);
-        CHECK.sentence("8 Takes away the first RULE that is DEAD", EdgeRulesTest::shrinksFirst);
-        CHECK.sentence("8 (a NOTE, too)", EdgeRulesTest::shrinksNotes);
-        CHECK.sentence("8 or NEEDLESS", EdgeRulesTest::shrinksNeedless);
-        CHECK.sentence("8 one by one, as all is then", EdgeRulesTest::shrinksAsAllIsThen);
-        CHECK.sentence("8 as long as there is one", EdgeRulesTest::shrinksToTheEnd);
-        CHECK.sentence("8 Returns how many were taken away", EdgeRulesTest::shrinkReturns);
-        CHECK.sentence("9 Returns how many RULES there are", EdgeRulesTest::countsRules);
-        CHECK.sentence("10 0 its VERDICT, 1 and 2 low and high of the FIELD 0, and so on", EdgeRulesTest::tellsOfRule);
-        CHECK.sentence("10 9 how often it was HIT", EdgeRulesTest::tellsHits);
-        CHECK.sentence("10 Throws if there is no such RULE", EdgeRulesTest::ofRuleThrowsRule);
-        CHECK.sentence("10 Throws if what is not 0 to 9", EdgeRulesTest::ofRuleThrowsWhat);
+        CHECK.sentence("Promise 1: Creates a compiler without RULES", EdgeRulesTest::withoutRules);
+        CHECK.sentence("Promise 2: Adds a RULE behind the others", EdgeRulesTest::addsBehind);
+        CHECK.sentence("Promise 2: with WHOLE RANGES", EdgeRulesTest::addsWholeRanges);
+        CHECK.sentence("Promise 2: Returns its number", EdgeRulesTest::ruleReturnsNumber);
+        CHECK.sentence("Promise 2: Throws if verdict is not 0 to 2", EdgeRulesTest::ruleThrowsVerdict);
+        CHECK.sentence("Promise 2: Throws if there are 8", EdgeRulesTest::ruleThrowsFull);
+        CHECK.sentence("Promise 3: Sets a RANGE", EdgeRulesTest::setsRange);
+        CHECK.sentence("Promise 3: Returns how many VALUES the RANGE had before", EdgeRulesTest::narrowReturns);
+        CHECK.sentence("Promise 3: Throws if there is no such RULE", EdgeRulesTest::narrowThrowsRule);
+        CHECK.sentence("Promise 3: or FIELD", EdgeRulesTest::narrowThrowsField);
+        CHECK.sentence("Promise 3: Throws if low or high is no VALUE of it", EdgeRulesTest::narrowThrowsValue);
+        CHECK.sentence("Promise 3: or high is less than low", EdgeRulesTest::narrowThrowsOrder);
+        CHECK.sentence("Promise 4: its VERDICT from now on", EdgeRulesTest::turns);
+        CHECK.sentence("Promise 4: Returns the one before", EdgeRulesTest::turnReturns);
+        CHECK.sentence("Promise 4: Throws if there is no such RULE", EdgeRulesTest::turnThrowsRule);
+        CHECK.sentence("Promise 4: Throws if verdict is not 0 to 2", EdgeRulesTest::turnThrowsVerdict);
+        CHECK.sentence("Promise 5: taken out, and put in so that it has another number then", EdgeRulesTest::moves);
+        CHECK.sentence("Promise 5: (How often it was HIT goes with it.)", EdgeRulesTest::moveTakesHits);
+        CHECK.sentence("Promise 5: Returns how many RULES have another number than before", EdgeRulesTest::moveReturns);
+        CHECK.sentence("Promise 5: Throws if there is no such RULE", EdgeRulesTest::moveThrowsRule);
+        CHECK.sentence("Promise 5: or number", EdgeRulesTest::moveThrowsNumber);
+        CHECK.sentence("Promise 6: Takes a RULE away", EdgeRulesTest::drops);
+        CHECK.sentence("Promise 6: Returns how many there are then", EdgeRulesTest::dropReturns);
+        CHECK.sentence("Promise 6: Throws if there is no such RULE", EdgeRulesTest::dropThrows);
+        CHECK.sentence("Promise 7: whether the LAST WORD is ALLOW from now on", EdgeRulesTest::setsLast);
+        CHECK.sentence("Promise 7: Returns whether it was", EdgeRulesTest::setLastReturns);
+        CHECK.sentence("Promise 8: Takes away the first RULE that is DEAD", EdgeRulesTest::shrinksFirst);
+        CHECK.sentence("Promise 8: (a NOTE, too)", EdgeRulesTest::shrinksNotes);
+        CHECK.sentence("Promise 8: or NEEDLESS", EdgeRulesTest::shrinksNeedless);
+        CHECK.sentence("Promise 8: one by one, as all is then", EdgeRulesTest::shrinksAsAllIsThen);
+        CHECK.sentence("Promise 8: as long as there is one", EdgeRulesTest::shrinksToTheEnd);
+        CHECK.sentence("Promise 8: Returns how many were taken away", EdgeRulesTest::shrinkReturns);
+        CHECK.sentence("Promise 9: Returns how many RULES there are", EdgeRulesTest::countsRules);
+        CHECK.sentence("Promise 10: 0 its VERDICT, 1 and 2 low and high of the FIELD 0, and so on",
+                EdgeRulesTest::tellsOfRule);
+        CHECK.sentence("Promise 10: 9 how often it was HIT", EdgeRulesTest::tellsHits);
+        CHECK.sentence("Promise 10: Throws if there is no such RULE", EdgeRulesTest::ofRuleThrowsRule);
+        CHECK.sentence("Promise 10: Throws if what is not 0 to 9", EdgeRulesTest::ofRuleThrowsWhat);
         CHECK.done("EdgeRulesTest");
     }
 
@@ -59,7 +60,9 @@ public final class EdgeRulesTest {
     private static void addsBehind() {
         Nettle n = Walls.row(7);
         n.send(3, 0, 0, 0);
+        CHECK.same("asked before", n.nodes(), 0);
         Walls.add(n, Walls.DENY, Walls.FROM, 9, 9);
+        CHECK.same("it counts from now on", n.nodes(), 1);
         CHECK.same("the others stay as they are", Walls.order(n), "0123*4569");
         CHECK.same("its verdict", n.ofRule(7, 0), Walls.DENY);
     }
@@ -129,6 +132,9 @@ public final class EdgeRulesTest {
                 CHECK.same("nothing else is set, what " + what, n.ofRule(0, what), due[what]);
             }
             CHECK.same("nor of another rule", Look.rule(n, 1), Walls.NOTE + Walls.WHOLE);
+            CHECK.same("it counts", n.allowed(), Walls.ALL / Walls.SIZES[field] * 2);
+            n.narrow(0, field, 3, 3);
+            CHECK.same("the next one counts from now on", n.allowed(), Walls.ALL / Walls.SIZES[field]);
         }
     }
 
@@ -200,7 +206,11 @@ public final class EdgeRulesTest {
         Walls.add(n, Walls.NOTE, Walls.FROM, 0, 0);
         Walls.add(n, Walls.DENY, Walls.FROM, 0, 0);
         n.send(0, 0, 0, 0);
+        CHECK.same("asked before", n.allowed() + n.changed(), 0);
+        CHECK.same("asked before", n.ofNode(0, 1), 2);
         n.turn(0, Walls.ALLOW);
+        CHECK.same("in the tree from now on", n.ofNode(0, 1), 3);
+        CHECK.same("other than the copy from now on", n.changed(), Walls.OF_FROM);
         CHECK.same("a rule from now on", n.decider(0, 0, 0, 0), 0);
         CHECK.same("allowed", n.allowed(), Walls.OF_FROM);
         CHECK.same("all else stays", Look.rule(n, 0), "1 0 0 0 255 0 1023 0 3 1");
@@ -255,6 +265,10 @@ public final class EdgeRulesTest {
         CHECK.same("of eight", Walls.order(n), "71234560");
         n.move(3, 4);
         CHECK.same("beside", Walls.order(n), "71243560");
+        Nettle two = Walls.whole(Walls.ALLOW, Walls.DENY);
+        CHECK.same("asked before", two.decides(0), Walls.ALL);
+        two.move(1, 0);
+        CHECK.same("the order counts from now on", two.allowed(), 0);
         Nettle one = Walls.row(1);
         one.move(0, 0);
         CHECK.same("the only one", Walls.order(one), "0");
@@ -313,6 +327,7 @@ public final class EdgeRulesTest {
         n.drop(2);
         CHECK.same("one in the midst", Walls.order(n), "12456*");
         Nettle only = Walls.whole(Walls.ALLOW);
+        CHECK.same("asked before", only.allowed(), Walls.ALL);
         only.drop(0);
         CHECK.same("the only one", only.allowed(), 0);
         CHECK.same("none decides any more", only.decider(0, 0, 0, 0), -1);
@@ -336,7 +351,9 @@ public final class EdgeRulesTest {
 
     private static void setsLast() {
         Nettle n = new Nettle();
+        CHECK.same("asked before", n.allowed() + n.changed(), 0);
         n.setLast(true);
+        CHECK.same("other than the copy from now on", n.changed(), Walls.ALL);
         CHECK.same("ALLOW", n.allowed(), Walls.ALL);
         n.setLast(true);
         CHECK.same("still", n.allowed(), Walls.ALL);

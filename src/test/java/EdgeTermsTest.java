@@ -3,34 +3,38 @@ public final class EdgeTermsTest {
     private static final Check CHECK = new Check();
 
     public static void main(String[] args) {
-        CHECK.sentence("1 PACKETS have four FIELDS: 0 FROM, 0 to 255", () -> valuesOf(Walls.FROM, 255));
-        CHECK.sentence("1 PACKETS have four FIELDS: 1 TO, 0 to 255", () -> valuesOf(Walls.TO, 255));
-        CHECK.sentence("1 PACKETS have four FIELDS: 2 PORT, 0 to 1023", () -> valuesOf(Walls.PORT, 1023));
-        CHECK.sentence("1 PACKETS have four FIELDS: 3 KIND, 0 to 3", () -> valuesOf(Walls.KIND, 3));
-        CHECK.sentence("1 RULES: at most 8", EdgeTermsTest::atMostEight);
-        CHECK.sentence("1 numbered from 0 in their order", EdgeTermsTest::numberedInOrder);
-        CHECK.sentence("1 each has a VERDICT: 0 DENY, 1 ALLOW, 2 NOTE", EdgeTermsTest::verdicts);
-        CHECK.sentence("1 for each FIELD a RANGE from low to high", EdgeTermsTest::rangesHaveBothEnds);
-        CHECK.sentence("1 it is WHOLE, if it has all VALUES of the FIELD", EdgeTermsTest::wholeRanges);
-        CHECK.sentence("1 A RULE MEETS a PACKET, if all its RANGES have its VALUES", EdgeTermsTest::meetsWithAllRanges);
-        CHECK.sentence("1 DECIDED by the first RULE with DENY or ALLOW", EdgeTermsTest::decidedByTheFirst);
-        CHECK.sentence("1 that MEETS it", EdgeTermsTest::decidedByOneThatMeetsIt);
-        CHECK.sentence("1 or by the LAST WORD, DENY (at first) or ALLOW", EdgeTermsTest::lastWord);
-        CHECK.sentence("1 The AMOUNT of PACKETS is how many of all 268435456", EdgeTermsTest::amounts);
-        CHECK.sentence("2 one is DEAD, if it is no NOTE, and DECIDES no PACKET", EdgeTermsTest::deadRule);
-        CHECK.sentence("2 a NOTE is DEAD, if each PACKET that it MEETS is DECIDED", EdgeTermsTest::deadNote);
-        CHECK.sentence("2 by RULES ahead of it", EdgeTermsTest::noteIsDeadByRulesAheadAlone);
-        CHECK.sentence("2 A RULE, a NOTE, too, is COVERED by another one", EdgeTermsTest::coveredByAnother);
-        CHECK.sentence("2 COVERED by one ahead of it", EdgeTermsTest::coveredByOneAhead);
-        CHECK.sentence("2 COVERED by one that is no NOTE", EdgeTermsTest::coveredByNoNote);
-        CHECK.sentence("2 if each RANGE of that has all VALUES of its own one", EdgeTermsTest::coveredInEachField);
-        CHECK.sentence("2 (it is DEAD then)", EdgeTermsTest::coveredIsDead);
-        CHECK.sentence("2 One that is no NOTE is NEEDLESS", EdgeTermsTest::noNoteIsNeedless);
-        CHECK.sentence("2 NEEDLESS, if it is not DEAD", EdgeTermsTest::noDeadOneIsNeedless);
-        CHECK.sentence("2 but without it each PACKET would have the same VERDICT", EdgeTermsTest::needlessForEachPacket);
-        CHECK.sentence("2 Two RULES that are no NOTES stand AGAINST each other", EdgeTermsTest::noNoteStandsAgainst);
-        CHECK.sentence("2 if some PACKET is MET by both", EdgeTermsTest::againstByOnePacket);
-        CHECK.sentence("2 and their VERDICTS are not the same", EdgeTermsTest::againstByVerdicts);
+        CHECK.sentence("Terms 1: PACKETS have four FIELDS: 0 FROM, 0 to 255", () -> valuesOf(Walls.FROM, 255));
+        CHECK.sentence("Terms 1: PACKETS have four FIELDS: 1 TO, 0 to 255", () -> valuesOf(Walls.TO, 255));
+        CHECK.sentence("Terms 1: PACKETS have four FIELDS: 2 PORT, 0 to 1023", () -> valuesOf(Walls.PORT, 1023));
+        CHECK.sentence("Terms 1: PACKETS have four FIELDS: 3 KIND, 0 to 3", () -> valuesOf(Walls.KIND, 3));
+        CHECK.sentence("Terms 1: RULES: at most 8", EdgeTermsTest::atMostEight);
+        CHECK.sentence("Terms 1: numbered from 0 in their order", EdgeTermsTest::numberedInOrder);
+        CHECK.sentence("Terms 1: each has a VERDICT: 0 DENY, 1 ALLOW, 2 NOTE", EdgeTermsTest::verdicts);
+        CHECK.sentence("Terms 1: for each FIELD a RANGE from low to high", EdgeTermsTest::rangesHaveBothEnds);
+        CHECK.sentence("Terms 1: it is WHOLE, if it has all VALUES of the FIELD", EdgeTermsTest::wholeRanges);
+        CHECK.sentence("Terms 1: A RULE MEETS a PACKET, if all its RANGES have its VALUES",
+                EdgeTermsTest::meetsWithAllRanges);
+        CHECK.sentence("Terms 1: DECIDED by the first RULE with DENY or ALLOW", EdgeTermsTest::decidedByTheFirst);
+        CHECK.sentence("Terms 1: that MEETS it", EdgeTermsTest::decidedByOneThatMeetsIt);
+        CHECK.sentence("Terms 1: or by the LAST WORD, DENY (at first) or ALLOW", EdgeTermsTest::lastWord);
+        CHECK.sentence("Terms 1: The AMOUNT of PACKETS is how many of all 268435456", EdgeTermsTest::amounts);
+        CHECK.sentence("Terms 2: one is DEAD, if it is no NOTE, and DECIDES no PACKET", EdgeTermsTest::deadRule);
+        CHECK.sentence("Terms 2: a NOTE is DEAD, if each PACKET that it MEETS is DECIDED", EdgeTermsTest::deadNote);
+        CHECK.sentence("Terms 2: by RULES ahead of it", EdgeTermsTest::noteIsDeadByRulesAheadAlone);
+        CHECK.sentence("Terms 2: A RULE, a NOTE, too, is COVERED by another one", EdgeTermsTest::coveredByAnother);
+        CHECK.sentence("Terms 2: COVERED by one ahead of it", EdgeTermsTest::coveredByOneAhead);
+        CHECK.sentence("Terms 2: COVERED by one that is no NOTE", EdgeTermsTest::coveredByNoNote);
+        CHECK.sentence("Terms 2: if each RANGE of that has all VALUES of its own one",
+                EdgeTermsTest::coveredInEachField);
+        CHECK.sentence("Terms 2: (it is DEAD then)", EdgeTermsTest::coveredIsDead);
+        CHECK.sentence("Terms 2: One that is no NOTE is NEEDLESS", EdgeTermsTest::noNoteIsNeedless);
+        CHECK.sentence("Terms 2: NEEDLESS, if it is not DEAD", EdgeTermsTest::noDeadOneIsNeedless);
+        CHECK.sentence("Terms 2: but without it each PACKET would have the same VERDICT",
+                EdgeTermsTest::needlessForEachPacket);
+        CHECK.sentence("Terms 2: Two RULES that are no NOTES stand AGAINST each other",
+                EdgeTermsTest::noNoteStandsAgainst);
+        CHECK.sentence("Terms 2: if some PACKET is MET by both", EdgeTermsTest::againstByOnePacket);
+        CHECK.sentence("Terms 2: and their VERDICTS are not the same", EdgeTermsTest::againstByVerdicts);
         CHECK.done("EdgeTermsTest");
     }
 

@@ -1,3 +1,4 @@
+import java.util.List;
 import java.util.function.Supplier;
 
 /** The term 3 and the promises 18 to 22: each sentence that names an edge has a test of its own. */
@@ -5,38 +6,43 @@ public final class EdgeTreeTest {
     private static final Check CHECK = new Check();
 
     public static void main(String[] args) {
-        CHECK.sentence("3 if it is empty, it leads to the LAST WORD", EdgeTreeTest::emptySet);
-        CHECK.sentence("3 if the RANGES of the first RULE are WHOLE, it leads to that", EdgeTreeTest::firstIsWhole);
-        CHECK.sentence("3 WHOLE in f and all later FIELDS", EdgeTreeTest::wholeInAllLaterFields);
-        CHECK.sentence("3 (or f is 4)", EdgeTreeTest::behindTheLastField);
-        CHECK.sentence("3 PIECES: the VALUES of f in order", EdgeTreeTest::valuesInOrder);
-        CHECK.sentence("3 cut ahead of each low", EdgeTreeTest::cutAheadOfLow);
-        CHECK.sentence("3 and behind each high", EdgeTreeTest::cutBehindHigh);
-        CHECK.sentence("3 of the RULES of the set", EdgeTreeTest::cutByTheSetAlone);
-        CHECK.sentence("3 each leads on, with the FIELD f + 1, and those RULES", EdgeTreeTest::leadsOn);
-        CHECK.sentence("3 PIECES beside each other with the same RULES are one", EdgeTreeTest::piecesBesideEachOther);
-        CHECK.sentence("3 NODES of the same FIELD and set are the same one", EdgeTreeTest::sameNode);
-        CHECK.sentence("3 It begins with the FIELD 0 and all RULES that are no NOTES", EdgeTreeTest::beginning);
-        CHECK.sentence("3 NODES are numbered from 0 as they are found", EdgeTreeTest::numbering);
-        CHECK.sentence("3 one that is found again keeps its number", EdgeTreeTest::foundAgain);
-        CHECK.sentence("18 Returns how many NODES it has", EdgeTreeTest::countsNodes);
-        CHECK.sentence("19 0 its FIELD", EdgeTreeTest::fieldOfNode);
-        CHECK.sentence("19 1 the set of its RULES (the sum of 2^k for each k in it)", EdgeTreeTest::setOfNode);
-        CHECK.sentence("19 2 how many PIECES it has", EdgeTreeTest::piecesOfNode);
-        CHECK.sentence("19 Throws if there is no such NODE", EdgeTreeTest::ofNodeThrowsNode);
-        CHECK.sentence("19 Throws if what is not 0 to 2", EdgeTreeTest::ofNodeThrowsWhat);
-        CHECK.sentence("20 the number of a PIECE of it, from 0", EdgeTreeTest::pieceNumbers);
-        CHECK.sentence("20 0 its least VALUE, 1 its greatest one", EdgeTreeTest::pieceValues);
-        CHECK.sentence("20 2 to which NODE it leads", EdgeTreeTest::pieceLeadsToNode);
-        CHECK.sentence("20 or -1 for the LAST WORD, -2 for the RULE 0, and so on", EdgeTreeTest::pieceLeadsToRule);
-        CHECK.sentence("20 Throws if there is no such NODE", EdgeTreeTest::pieceThrowsNode);
-        CHECK.sentence("20 or PIECE", EdgeTreeTest::pieceThrowsPiece);
-        CHECK.sentence("20 Throws if what is not 0 to 2", EdgeTreeTest::pieceThrowsWhat);
-        CHECK.sentence("21 Returns how many NODES one comes through", EdgeTreeTest::steps);
-        CHECK.sentence("21 (0, if there are none)", EdgeTreeTest::noSteps);
-        CHECK.sentence("21 Throws if one is no VALUE of its FIELD", EdgeTreeTest::stepsThrows);
-        CHECK.sentence("22 Returns the mean of steps() of all PACKETS", EdgeTreeTest::mean);
-        CHECK.sentence("22 not cut", EdgeTreeTest::meanIsNotCut);
+        CHECK.sentence("Terms 3: if it is empty, it leads to the LAST WORD", EdgeTreeTest::emptySet);
+        CHECK.sentence("Terms 3: if the RANGES of the first RULE are WHOLE, it leads to that",
+                EdgeTreeTest::firstIsWhole);
+        CHECK.sentence("Terms 3: WHOLE in f and all later FIELDS", EdgeTreeTest::wholeInAllLaterFields);
+        CHECK.sentence("Terms 3: (or f is 4)", EdgeTreeTest::behindTheLastField);
+        CHECK.sentence("Terms 3: PIECES: the VALUES of f in order", EdgeTreeTest::valuesInOrder);
+        CHECK.sentence("Terms 3: cut ahead of each low", EdgeTreeTest::cutAheadOfLow);
+        CHECK.sentence("Terms 3: and behind each high", EdgeTreeTest::cutBehindHigh);
+        CHECK.sentence("Terms 3: of the RULES of the set", EdgeTreeTest::cutByTheSetAlone);
+        CHECK.sentence("Terms 3: each leads on, with the FIELD f + 1, and those RULES", EdgeTreeTest::leadsOn);
+        CHECK.sentence("Terms 3: PIECES beside each other with the same RULES are one",
+                EdgeTreeTest::piecesBesideEachOther);
+        CHECK.sentence("Terms 3: NODES of the same FIELD and set are the same one", EdgeTreeTest::sameNode);
+        CHECK.sentence("Terms 3: It begins with the FIELD 0 and all RULES that are no NOTES", EdgeTreeTest::beginning);
+        CHECK.sentence("Terms 3: NODES are numbered from 0 as they are found", EdgeTreeTest::numbering);
+        CHECK.sentence("Terms 3: one that is found again keeps its number", EdgeTreeTest::foundAgain);
+        CHECK.sentence("Promise 18: Returns how many NODES it has", EdgeTreeTest::countsNodes);
+        CHECK.sentence("Promise 18: it: the TREE of what is now", EdgeTreeTest::countsNodesOfNow);
+        CHECK.sentence("Promise 18: however many NODES there are", EdgeTreeTest::countsVeryManyNodes);
+        CHECK.sentence("Promise 19: 0 its FIELD", EdgeTreeTest::fieldOfNode);
+        CHECK.sentence("Promise 19: 1 the set of its RULES (the sum of 2^k for each k in it)", EdgeTreeTest::setOfNode);
+        CHECK.sentence("Promise 19: 2 how many PIECES it has", EdgeTreeTest::piecesOfNode);
+        CHECK.sentence("Promise 19: Throws if there is no such NODE", EdgeTreeTest::ofNodeThrowsNode);
+        CHECK.sentence("Promise 19: Throws if what is not 0 to 2", EdgeTreeTest::ofNodeThrowsWhat);
+        CHECK.sentence("Promise 20: the number of a PIECE of it, from 0", EdgeTreeTest::pieceNumbers);
+        CHECK.sentence("Promise 20: 0 its least VALUE, 1 its greatest one", EdgeTreeTest::pieceValues);
+        CHECK.sentence("Promise 20: 2 to which NODE it leads", EdgeTreeTest::pieceLeadsToNode);
+        CHECK.sentence("Promise 20: or -1 for the LAST WORD, -2 for the RULE 0, and so on",
+                EdgeTreeTest::pieceLeadsToRule);
+        CHECK.sentence("Promise 20: Throws if there is no such NODE", EdgeTreeTest::pieceThrowsNode);
+        CHECK.sentence("Promise 20: or PIECE", EdgeTreeTest::pieceThrowsPiece);
+        CHECK.sentence("Promise 20: Throws if what is not 0 to 2", EdgeTreeTest::pieceThrowsWhat);
+        CHECK.sentence("Promise 21: Returns how many NODES one comes through", EdgeTreeTest::steps);
+        CHECK.sentence("Promise 21: (0, if there are none)", EdgeTreeTest::noSteps);
+        CHECK.sentence("Promise 21: Throws if one is no VALUE of its FIELD", EdgeTreeTest::stepsThrows);
+        CHECK.sentence("Promise 22: Returns the mean of steps() of all PACKETS", EdgeTreeTest::mean);
+        CHECK.sentence("Promise 22: not cut", EdgeTreeTest::meanIsNotCut);
         CHECK.done("EdgeTreeTest");
     }
 
@@ -181,6 +187,8 @@ public final class EdgeTreeTest {
                 "0 {3} 0..0>1 1..1>-2 2..255>1", "1 {2} 0..4>-1 5..255>-3");
         tree("another field", () -> rules(is(2, 0, 0)),
                 "0 {1} 0..255>1", "1 {1} 0..255>2", "2 {1} 0..0>-2 1..1023>-1");
+        tree("each field", () -> rules(is(3, 0, 0)),
+                "0 {1} 0..255>1", "1 {1} 0..255>2", "2 {1} 0..1023>3", "3 {1} 0..0>-2 1..3>-1");
         tree("another set, with the same ranges", () -> rules(is(0, 0, 0, 1, 3, 3), is(0, 1, 1, 1, 3, 3)),
                 "0 {3} 0..0>1 1..1>2 2..255>-1",
                 "1 {1} 0..2>-1 3..3>-2 4..255>-1", "1 {2} 0..2>-1 3..3>-3 4..255>-1");
@@ -251,6 +259,59 @@ public final class EdgeTreeTest {
             Walls.add(eight, rule % 2, Walls.FROM, rule, rule, Walls.KIND, 1, 1);
         }
         CHECK.same("of eight", eight.nodes(), 1 + 8 * 3);
+    }
+
+    /** What was asked for earlier leaves nothing behind. */
+    private static void countsNodesOfNow() {
+        Nettle n = rules(is(0, 0, 9, 1, 0, 99), is(1, 100, 255));
+        CHECK.same("three", n.nodes(), 3);
+        n.narrow(0, Walls.FROM, 0, 255);
+        CHECK.same("two", n.nodes(), 2);
+        CHECK.same("the first one", Look.node(n, 0), "0 {3} 0..255>1");
+        CHECK.same("the second one", Look.node(n, 1), "1 {3} 0..99>-2 100..255>-3");
+        CHECK.same("two steps for all", n.meanSteps(), 2.0);
+        n.turn(0, Walls.NOTE);
+        n.turn(1, Walls.NOTE);
+        CHECK.same("none", n.nodes(), 0);
+        CHECK.same("no step for any", n.meanSteps(), 0.0);
+    }
+
+    private static final int[][] MANY = {
+        {57, 95, 35, 180, 178, 756, 0, 2}, {35, 194, 83, 147, 458, 537, 1, 1},
+        {27, 204, 100, 112, 38, 768, 1, 2}, {93, 105, 9, 183, 48, 909, 0, 2},
+        {8, 118, 104, 162, 350, 1023, 3, 3}, {77, 147, 87, 218, 296, 560, 2, 3},
+        {15, 207, 109, 140, 38, 945, 1, 3}, {37, 196, 58, 154, 482, 734, 0, 2},
+    };
+
+    private static Nettle veryMany() {
+        Nettle n = new Nettle();
+        for (int[] ends : MANY) {
+            Walls.add(n, Walls.ALLOW, 0, ends[0], ends[1], 1, ends[2], ends[3], 2, ends[4], ends[5],
+                    3, ends[6], ends[7]);
+        }
+        return n;
+    }
+
+    private static void countsVeryManyNodes() {
+        Model model = new Model();
+        for (int[] ends : MANY) {
+            int rule = model.rule(Walls.ALLOW);
+            for (int field = 0; field < 4; field++) {
+                model.narrow(rule, field, ends[2 * field], ends[2 * field + 1]);
+            }
+        }
+        List<Model.Node> due = model.tree();
+        CHECK.same("very many", due.size(), 296);
+        CHECK.same("as many", veryMany().nodes(), due.size());
+        CHECK.same("the mean of their steps", veryMany().meanSteps(), model.meanSteps());
+        for (int node = 0; node < due.size(); node++) {
+            Nettle n = veryMany();
+            CHECK.same("pieces of node " + node, n.ofNode(node, 2), due.get(node).pieces.size());
+            for (int piece = 0; piece < due.get(node).pieces.size(); piece++) {
+                CHECK.same("node " + node + " piece " + piece,
+                        n.piece(node, piece, 2), due.get(node).pieces.get(piece)[2]);
+            }
+        }
     }
 
     private static void fieldOfNode() {

@@ -9,21 +9,23 @@ public final class EdgeWouldTest {
     private static final int[] COUNTS = {0, 1, 5, 8};
 
     public static void main(String[] args) {
-        CHECK.sentence("30 Returns the AMOUNT that would be ALLOWED so without it", EdgeWouldTest::allowedWithout);
-        CHECK.sentence("30 (nothing is changed)", EdgeWouldTest::allowedWithoutChangesNothing);
-        CHECK.sentence("30 Throws if there is no such RULE", EdgeWouldTest::allowedWithoutThrows);
-        CHECK.sentence("31 Returns the AMOUNT that would have another VERDICT", EdgeWouldTest::changedByMove);
-        CHECK.sentence("31 if it was moved so", EdgeWouldTest::changedByMoveAsMoved);
-        CHECK.sentence("31 (nothing is changed)", EdgeWouldTest::changedByMoveChangesNothing);
-        CHECK.sentence("31 Throws if there is no such RULE", EdgeWouldTest::changedByMoveThrowsRule);
-        CHECK.sentence("31 or number", EdgeWouldTest::changedByMoveThrowsNumber);
-        CHECK.sentence("32 A number d starts with 58082", EdgeWouldTest::digestOfANewObject);
-        CHECK.sentence("32 for each RULE ofRule() of 0 to 9, decides(), state()", EdgeWouldTest::digestOfRules);
-        CHECK.sentence("32 for each of the first 20 NODES (or all)", EdgeWouldTest::digestOfNodes);
-        CHECK.sentence("32 of each that is kept kept() of 0 to 2", EdgeWouldTest::digestOfKept);
-        CHECK.sentence("32 changed(), witness() of 0 to 3", EdgeWouldTest::digestOfCopy);
-        CHECK.sentence("32 which wraps around as a 64-bit integer", EdgeWouldTest::digestWraps);
-        CHECK.sentence("32 (nothing is changed)", EdgeWouldTest::digestChangesNothing);
+        CHECK.sentence("Promise 30: Returns the AMOUNT that would be ALLOWED so without it",
+                EdgeWouldTest::allowedWithout);
+        CHECK.sentence("Promise 30: (nothing is changed)", EdgeWouldTest::allowedWithoutChangesNothing);
+        CHECK.sentence("Promise 30: Throws if there is no such RULE", EdgeWouldTest::allowedWithoutThrows);
+        CHECK.sentence("Promise 31: Returns the AMOUNT that would have another VERDICT", EdgeWouldTest::changedByMove);
+        CHECK.sentence("Promise 31: if it was moved so", EdgeWouldTest::changedByMoveAsMoved);
+        CHECK.sentence("Promise 31: (nothing is changed)", EdgeWouldTest::changedByMoveChangesNothing);
+        CHECK.sentence("Promise 31: Throws if there is no such RULE", EdgeWouldTest::changedByMoveThrowsRule);
+        CHECK.sentence("Promise 31: or number", EdgeWouldTest::changedByMoveThrowsNumber);
+        CHECK.sentence("Promise 32: A number d starts with 58082", EdgeWouldTest::digestOfANewObject);
+        CHECK.sentence("Promise 32: for each RULE ofRule() of 0 to 9, decides(), state()",
+                EdgeWouldTest::digestOfRules);
+        CHECK.sentence("Promise 32: for each of the first 20 NODES (or all)", EdgeWouldTest::digestOfNodes);
+        CHECK.sentence("Promise 32: of each that is kept kept() of 0 to 2", EdgeWouldTest::digestOfKept);
+        CHECK.sentence("Promise 32: changed(), witness() of 0 to 3", EdgeWouldTest::digestOfCopy);
+        CHECK.sentence("Promise 32: which wraps around as a 64-bit integer", EdgeWouldTest::digestWraps);
+        CHECK.sentence("Promise 32: (nothing is changed)", EdgeWouldTest::digestChangesNothing);
         CHECK.done("EdgeWouldTest");
     }
 
@@ -229,8 +231,8 @@ public final class EdgeWouldTest {
     private static void digestWraps() {
         BigInteger exact = exact(told(Nettle::new));
         CHECK.same("even the least digest does not fit into 64 bits", exact.bitLength() > 64, true);
-        for (Supplier<Nettle> made : List.<Supplier<Nettle>>of(Nettle::new, Walls::oneRule, Walls::twoByTwo, Walls::used,
-                Walls::full, EdgeWouldTest::eight)) {
+        for (Supplier<Nettle> made : List.<Supplier<Nettle>>of(Nettle::new, Walls::oneRule, Walls::twoByTwo,
+                Walls::used, Walls::full, EdgeWouldTest::eight)) {
             CHECK.same("the last 64 bits of it", made.get().digest(), exact(told(made)).longValue());
         }
     }
@@ -240,6 +242,7 @@ public final class EdgeWouldTest {
             Nettle n = made.get();
             long digest = n.digest();
             CHECK.same("again", n.digest(), digest);
+            CHECK.same("the copy", n.changed(), made.get().changed());
             CHECK.same("all else", Look.through(n), Look.through(made.get()));
         }
     }

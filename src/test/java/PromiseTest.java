@@ -1,3 +1,7 @@
+import java.util.ArrayList;
+import java.util.List;
+import java.util.function.Supplier;
+
 /** Each promise of the document by hand: ordinary inputs, edges, and wrong inputs. */
 public final class PromiseTest {
     private static final int DENY = 0;
@@ -895,48 +899,57 @@ public final class PromiseTest {
         }
     }
 
-    private static long digestOfAnswers(Nettle n) {
-        java.util.List<Integer> told = new java.util.ArrayList<>();
+    /** Each NODE is asked of an object of its own: a TREE takes many calls. */
+    private static long digestOfAnswers(Supplier<Nettle> made) {
+        Nettle n = made.get();
+        List<Integer> told = new ArrayList<>();
         told.add(n.rules());
         for (int rule = 0; rule < n.rules(); rule++) {
             for (int what = 0; what <= 9; what++) {
                 told.add(n.ofRule(rule, what));
             }
-            told.add(n.decides(rule));
-            told.add(n.state(rule));
-            told.add(n.coveredBy(rule));
-            told.add(n.allowedWithout(rule));
+            told.addAll(List.of(n.decides(rule), n.state(rule), n.coveredBy(rule), n.allowedWithout(rule)));
         }
-        told.add(n.allowed());
-        told.add(n.quarrels());
-        told.add(n.nodes());
+        told.addAll(List.of(n.allowed(), n.quarrels(), n.nodes()));
         for (int node = 0; node < Math.min(20, n.nodes()); node++) {
-            for (int what = 0; what <= 2; what++) {
-                told.add(n.ofNode(node, what));
-            }
-            for (int piece = 0; piece < n.ofNode(node, 2); piece++) {
-                for (int what = 0; what <= 2; what++) {
-                    told.add(n.piece(node, piece, what));
-                }
-            }
+            tellNode(told, made.get(), node);
         }
         for (int what = 0; what <= 4; what++) {
             told.add(n.sent(what));
         }
         for (int place = 0; place < n.sent(3); place++) {
-            for (int field = 0; field <= 2; field++) {
-                told.add(n.kept(place, field));
-            }
+            told.addAll(List.of(n.kept(place, 0), n.kept(place, 1), n.kept(place, 2)));
         }
-        told.add(n.changed());
-        for (int field = 0; field <= 3; field++) {
-            told.add(n.witness(field));
-        }
+        told.addAll(List.of(n.changed(), n.witness(0), n.witness(1), n.witness(2), n.witness(3)));
         long d = 58082;
         for (int x : told) {
             d = d * 31 + x;
         }
         return d;
+    }
+
+    private static void tellNode(List<Integer> told, Nettle n, int node) {
+        told.addAll(List.of(n.ofNode(node, 0), n.ofNode(node, 1), n.ofNode(node, 2)));
+        for (int piece = 0; piece < n.ofNode(node, 2); piece++) {
+            told.addAll(List.of(n.piece(node, piece, 0), n.piece(node, piece, 1), n.piece(node, piece, 2)));
+        }
+    }
+
+    private static Nettle sentThrough() {
+        Nettle n = twoByTwo();
+        add(n, NOTE, 3, 0, 0);
+        n.send(10, 100, 5, 0);
+        n.send(100, 10, 5, 1);
+        return n;
+    }
+
+    private static Nettle manyNodes() {
+        Nettle many = new Nettle();
+        for (int rule = 0; rule < 6; rule++) {
+            int low = rule * 9;
+            add(many, rule % 2, 0, low, 200 + low, 1, 50 - low, 250 - low, 2, low, 900, 3, rule % 3, 2);
+        }
+        return many;
     }
 
     private static void promise32() {
@@ -946,18 +959,10 @@ public final class PromiseTest {
             empty = empty * 31 + x;
         }
         same("32 a new object", new Nettle().digest(), empty);
-        Nettle n = twoByTwo();
-        add(n, NOTE, 3, 0, 0);
-        n.send(10, 100, 5, 0);
-        n.send(100, 10, 5, 1);
-        same("32 of a few rules", n.digest(), digestOfAnswers(n));
-        Nettle many = new Nettle();
-        for (int rule = 0; rule < 6; rule++) {
-            int low = rule * 9;
-            add(many, rule % 2, 0, low, 200 + low, 1, 50 - low, 250 - low, 2, low, 900, 3, rule % 3, 2);
-        }
+        same("32 of a few rules", sentThrough().digest(), digestOfAnswers(PromiseTest::sentThrough));
+        Nettle many = manyNodes();
         CHECK.same("32 more than twenty nodes", many.nodes() > 20, true);
-        same("32 of many nodes", many.digest(), digestOfAnswers(many));
-        same("32 again", many.digest(), digestOfAnswers(many));
+        same("32 of many nodes", many.digest(), digestOfAnswers(PromiseTest::manyNodes));
+        same("32 again", many.digest(), digestOfAnswers(PromiseTest::manyNodes));
     }
 }

@@ -69,7 +69,7 @@ final class Walls {
         return add(n, verdict, FROM, 255, 255, TO, 255, 255, PORT, 1023, 1023, KIND, 3, 3);
     }
 
-    /** Five RULES that were HIT, two PACKETS that are kept, a COPY of other RULES, and a LAST WORD out of sight. */
+    /** Five RULES that were HIT, two PACKETS that are kept, a COPY of other RULES, the LAST WORD ALLOW in both. */
     static Nettle used() {
         Nettle n = new Nettle();
         n.setLast(true);
@@ -86,7 +86,7 @@ final class Walls {
         return n;
     }
 
-    /** Eight RULES, eight PACKETS that are kept, a COPY of seven RULES. */
+    /** Eight RULES, eight PACKETS that are kept, a COPY of seven RULES, and the LAST WORD DENY in both. */
     static Nettle full() {
         Nettle n = new Nettle();
         for (int rule = 0; rule < 8; rule++) {
@@ -100,6 +100,7 @@ final class Walls {
         for (int to = 0; to < 8; to++) {
             n.send(255, to, to, 0);
         }
+        n.setLast(false);
         return n;
     }
 
