@@ -30,6 +30,7 @@ public final class EdgeSendTest {
         CHECK.sentence("Promise 24: 3 how many are kept now", EdgeSendTest::sentKept);
         CHECK.sentence("Promise 24: 4 how many the LAST WORD DECIDED", EdgeSendTest::sentByLastWord);
         CHECK.sentence("Promise 24: (REMEMBERED ones not)", EdgeSendTest::sentByLastWordWithoutRemembered);
+        CHECK.sentence("Promise 24: however many, up to the 512th call", EdgeSendTest::sentVeryMany);
         CHECK.sentence("Promise 24: Throws if what is not 0 to 4", EdgeSendTest::sentThrows);
         CHECK.sentence("Promise 25: a place among those kept, from 0, the first one", EdgeSendTest::places);
         CHECK.sentence("Promise 25: 0 FROM, 1 TO, 2 PORT", EdgeSendTest::keptFields);
@@ -385,6 +386,26 @@ public final class EdgeSendTest {
         n.forget();
         n.send(9, 0, 0, 1);
         CHECK.same("the same when it is forgotten", n.sent(4), 2);
+    }
+
+    /** The one call behind these is the object's 512th. */
+    private static Nettle sending(Nettle n, int from, int to, int kind, int calls) {
+        for (int i = 0; i < calls; i++) {
+            n.send(from, to, 5, kind);
+        }
+        return n;
+    }
+
+    private static void sentVeryMany() {
+        CHECK.same("sent", sending(new Nettle(), 1, 2, 3, 511).sent(0), 511);
+        CHECK.same("allowed", sending(open(), 1, 2, 3, 510).sent(1), 510);
+        CHECK.same("by the last word", sending(new Nettle(), 1, 2, 0, 511).sent(4), 511);
+        Nettle answers = open();
+        answers.send(1, 2, 5, 0);
+        CHECK.same("remembered", sending(answers, 2, 1, 1, 509).sent(2), 509);
+        CHECK.same("a rule is hit", sending(Walls.oneRule(), 1, 2, 3, 510).ofRule(0, 9), 510);
+        CHECK.same("a note is hit", sending(Walls.whole(Walls.NOTE), 1, 2, 3, 510).ofRule(0, 9), 510);
+        CHECK.same("kept", sending(Walls.oneRule(), 1, 2, 0, 510).sent(3), 1);
     }
 
     private static void sentThrows() {

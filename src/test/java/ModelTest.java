@@ -2,7 +2,11 @@ import java.util.Random;
 
 /** Many runs of calls, drawn from a fixed start, on an object and on the model: all answers are the same. */
 public final class ModelTest {
+    private static final Check CHECK = new Check();
     private static final int[] SIZES = Model.SIZES;
+    /** "An object is used for at most 512 calls after it has been made." */
+    private static final int MOST_CALLS = 512;
+    private static final int MOST_CALLS_OF_A_STEP = 4;
 
     private final Random random;
     private final Nettle nettle = new Nettle();
@@ -10,6 +14,8 @@ public final class ModelTest {
     /** RANGES begin and end at few places, so that they often touch, and the model has few blocks. */
     private final int[][] places;
     private final StringBuilder told = new StringBuilder();
+    private String wrong;
+    private int asked;
 
     private interface Call {
         double make();
@@ -27,32 +33,69 @@ public final class ModelTest {
     }
 
     public static void main(String[] args) {
-        Check check = new Check();
         for (int seed = 0; seed < 400; seed++) {
             ModelTest test = new ModelTest(seed, 2 + seed % 4);
-            check.same("run " + seed, test.run(40 + seed % 80, seed % 5), "as due");
+            CHECK.same("run " + seed, test.run(40 + seed % 80, seed % 5), "as due");
         }
         for (int seed = 1000; seed < 1012; seed++) {
             ModelTest test = new ModelTest(seed, 40);
-            check.same("run " + seed, test.run(16, 5), "as due");
+            CHECK.same("run " + seed, test.run(16, 5), "as due");
         }
-        check.done("ModelTest");
+        CHECK.sentence("An object is used for at most 512 calls", ModelTest::toTheLastCall);
+        CHECK.sentence("What an object answers is its own: two, asked by turns", ModelTest::sideBySide);
+        CHECK.done("ModelTest");
+    }
+
+    private static void toTheLastCall() {
+        for (int seed = 2000; seed < 2016; seed++) {
+            ModelTest test = new ModelTest(seed, 2 + seed % 3);
+            for (int i = 0; test.wrong == null && test.asked < MOST_CALLS - MOST_CALLS_OF_A_STEP; i++) {
+                test.step(i % 8 == 7);
+            }
+            while (test.wrong == null && test.asked < MOST_CALLS - 1) {
+                test.wrong = test.aQuestion();
+            }
+            test.step(true);
+            CHECK.same("run " + seed, test.answer(), "as due");
+            CHECK.same("calls of the run " + seed, test.asked, MOST_CALLS);
+        }
+    }
+
+    private static void sideBySide() {
+        for (int seed = 3000; seed < 3020; seed++) {
+            ModelTest one = new ModelTest(seed, 3);
+            ModelTest other = new ModelTest(seed + 500, 3);
+            for (int i = 0; i < 100; i++) {
+                one.step(i % 8 == 7);
+                other.step(i % 8 == 7);
+            }
+            CHECK.same("the one of run " + seed, one.answer(), "as due");
+            CHECK.same("the other of run " + seed, other.answer(), "as due");
+        }
     }
 
     private String run(int calls, int firstRules) {
-        String wrong = null;
         for (int i = 0; i < firstRules && wrong == null; i++) {
             wrong = addNarrow();
         }
-        for (int i = 0; i < calls && wrong == null; i++) {
-            wrong = oneCall();
-            if (wrong == null && i % 4 == 3) {
-                wrong = compare("digest()", nettle::digest, model::digest);
+        for (int i = 0; i < calls; i++) {
+            step(false);
+            if (i % 4 == 3) {
+                step(true);
             }
         }
+        step(true);
+        return answer();
+    }
+
+    /** The checksum, or another call or up to four, as long as all answers were as due. */
+    private void step(boolean isDigest) {
         if (wrong == null) {
-            wrong = compare("digest()", nettle::digest, model::digest);
+            wrong = isDigest ? compare("digest()", nettle::digest, model::digest) : oneCall();
         }
+    }
+
+    private String answer() {
         return wrong == null ? "as due" : told + "\n" + wrong;
     }
 
@@ -63,6 +106,7 @@ public final class ModelTest {
 
     private String compare(String call, Whole got, Whole due) {
         told.append(' ').append(call);
+        asked++;
         String a = answer(() -> Long.toString(got.make()));
         String b = answer(() -> Long.toString(due.make()));
         return a.equals(b) ? null : call + " answered " + a + ", due is " + b;
@@ -70,6 +114,7 @@ public final class ModelTest {
 
     private String compareDouble(String call, Call got, Call due) {
         told.append(' ').append(call);
+        asked++;
         String a = answer(() -> Double.toString(got.make()));
         String b = answer(() -> Double.toString(due.make()));
         return a.equals(b) ? null : call + " answered " + a + ", due is " + b;
@@ -90,14 +135,19 @@ public final class ModelTest {
     /** Mostly one of those there are, now and then one that there is not. */
     private int number(int size) {
         if (random.nextInt(12) == 0) {
-            return random.nextBoolean() ? -1 : size;
+            return noNumber(size);
         }
         return size == 0 ? 0 : random.nextInt(size);
     }
 
+    private int noNumber(int size) {
+        int[] far = {-1, size, -1, size, size + 1, 256 + size, 65536, Integer.MAX_VALUE, Integer.MIN_VALUE};
+        return far[random.nextInt(far.length)];
+    }
+
     private int value(int field) {
         if (random.nextInt(60) == 0) {
-            return random.nextBoolean() ? -1 : SIZES[field];
+            return noNumber(SIZES[field]);
         }
         int place = places[field][random.nextInt(places[field].length)];
         switch (random.nextInt(5)) {
@@ -114,7 +164,7 @@ public final class ModelTest {
         int verdict = random.nextInt(3);
         String wrong = compare("rule(" + verdict + ")", () -> nettle.rule(verdict), () -> model.rule(verdict));
         for (int i = random.nextInt(4); i > 0 && wrong == null; i--) {
-            wrong = narrow(nettle.rules() - 1);
+            wrong = narrow(model.rules() - 1);
         }
         return wrong;
     }
@@ -135,7 +185,7 @@ public final class ModelTest {
         switch (random.nextInt(10)) {
             case 0:
             case 1:
-                return narrow(number(nettle.rules()));
+                return narrow(number(model.rules()));
             case 2:
             case 3:
                 return changeRules();
@@ -152,8 +202,8 @@ public final class ModelTest {
     }
 
     private String changeRules() {
-        int a = number(nettle.rules());
-        int b = number(nettle.rules());
+        int a = number(model.rules());
+        int b = number(model.rules());
         int verdict = number(3);
         boolean isAllowed = random.nextBoolean();
         switch (random.nextInt(9)) {
@@ -214,9 +264,10 @@ public final class ModelTest {
     }
 
     private String aTreeQuestion() {
-        int node = number(nettle.nodes());
+        int nodes = model.nodes();
+        int node = number(nodes);
         int what = number(3);
-        int pieces = node >= 0 && node < nettle.nodes() ? nettle.ofNode(node, 2) : 1;
+        int pieces = node >= 0 && node < nodes ? model.ofNode(node, 2) : 1;
         int piece = number(pieces);
         switch (random.nextInt(4)) {
             case 0:
@@ -245,11 +296,11 @@ public final class ModelTest {
     }
 
     private String aQuestion() {
-        int a = number(nettle.rules());
-        int b = number(nettle.rules());
+        int a = number(model.rules());
+        int b = number(model.rules());
         int what = number(10);
         int five = number(5);
-        int place = number(nettle.sent(3));
+        int place = number(model.sent(3));
         int three = number(3);
         switch (random.nextInt(12)) {
             case 0:
